@@ -82,11 +82,12 @@ public final class ListSpeaker {
     private static final int DO_LOAD = 3;
     private static final int DO_JUMP = 4;
     private static final int DO_JUMP_IF_NIL = 5;
-    private static final int DO_JUMP_OR_DROP = 6;
-    private static final int DO_SLIDE = 7;
-    private static final int DO_CALL = 8;
-    private static final int DO_TAIL_CALL = 9;
-    private static final int DO_RETURN = 10;
+    private static final int DO_KEEP_NIL = 6;
+    private static final int DO_KEEP_OTHERS = 7;
+    private static final int DO_SLIDE = 8;
+    private static final int DO_CALL = 9;
+    private static final int DO_TAIL_CALL = 10;
+    private static final int DO_RETURN = 11;
 
     private final Symbols symbols;
     private final Pairs pairs;
@@ -480,7 +481,7 @@ public final class ListSpeaker {
 
         boolean hasMore() {
             skipBlanks();
-            return !atEnd();
+            return at < length;
         }
 
         int next() {
@@ -613,10 +614,6 @@ public final class ListSpeaker {
             }
         }
 
-        private boolean atEnd() {
-            return at >= length;
-        }
-
         private boolean isAt(char c) {
             return at < length && text[at] == c;
         }
@@ -725,7 +722,7 @@ public final class ListSpeaker {
             }
             int parameters = pairs.item(datum, 2);
             int count = pairs.lengthOf(parameters);
-            if (count < 0 || count > MOST_PARAMETERS || !areVariables(parameters, count)) {
+            if (count < 0 || count > MOST_PARAMETERS || !areVariables(parameters, count, false)) {
                 return SYNTAX;
             }
             known = 0;
@@ -737,19 +734,28 @@ public final class ListSpeaker {
             return error;
         }
 
-        private boolean areVariables(int list, int count) {
+        /** In couples each variable is the first of a list. */
+        private boolean areVariables(int list, int count, boolean inCouples) {
+            int rest = list;
             for (int i = 0; i < count; i++) {
-                int name = pairs.item(list, i);
+                int name = nameIn(pairs.car(rest), inCouples);
                 if (!mayBeVariable(name)) {
                     return false;
                 }
+                int earlier = list;
                 for (int k = 0; k < i; k++) {
-                    if (pairs.item(list, k) == name) {
+                    if (nameIn(pairs.car(earlier), inCouples) == name) {
                         return false;
                     }
+                    earlier = pairs.cdr(earlier);
                 }
+                rest = pairs.cdr(rest);
             }
             return true;
+        }
+
+        private int nameIn(int datum, boolean inCouple) {
+            return inCouple ? pairs.car(datum) : datum;
         }
 
         private static boolean mayBeVariable(int name) {
@@ -802,18 +808,20 @@ public final class ListSpeaker {
                 case IF: return count == 3 ? choice(rest, place, tail, level) : SYNTAX;
                 case LET: return count == 2 ? let(rest, place, tail, level) : SYNTAX;
                 case COND: return areCouples(rest, count) ? clauses(rest, count, place, tail, level) : SYNTAX;
-                case AND: return and(rest, count, place, tail, level);
-                case OR: return or(rest, count, place, tail, level);
-                case LIST: return listing(rest, count, place, level);
+                case AND: case OR: return inTurn(head, rest, count, place, tail, level);
                 case DEFUN: return SYNTAX;
                 default: break;
             }
-            if (head >= CONS && head <= ERROR_NAME) {
-                return count == argumentsOf(head) ? primitive(head, rest, count, place, level) : ARGUMENTS;
+            if (isPrimitive(head) && count != argumentsOf(head)) {
+                return ARGUMENTS;
             }
             int error = forms(rest, count, place, level);
-            code.putCall(tail ? DO_TAIL_CALL : DO_CALL, head, count);
+            putUse(head, count, tail);
             return error;
+        }
+
+        private static boolean isPrimitive(int head) {
+            return head >= CONS && head <= ERROR_NAME;
         }
 
         private static int argumentsOf(int head) {
@@ -843,19 +851,18 @@ public final class ListSpeaker {
             return FINE;
         }
 
-        private int primitive(int head, int rest, int count, int place, int level) {
-            int error = forms(rest, count, place, level);
-            code.put(head, 0);
-            return error;
-        }
-
-        private int listing(int rest, int count, int place, int level) {
-            int error = forms(rest, count, place, level);
-            code.put(DO_PUSH, NIL);
-            for (int i = 0; i < count; i++) {
-                code.put(CONS, 0);
+        /** What is done with the values of count forms when they lie on the stack. */
+        private void putUse(int head, int count, boolean tail) {
+            if (isPrimitive(head)) {
+                code.put(head, 0);
+            } else if (head == LIST) {
+                code.put(DO_PUSH, NIL);
+                for (int i = 0; i < count; i++) {
+                    code.put(CONS, 0);
+                }
+            } else {
+                code.putCall(tail ? DO_TAIL_CALL : DO_CALL, head, count);
             }
-            return error;
         }
 
         private int choice(int rest, int place, boolean tail, int level) {
@@ -878,7 +885,7 @@ public final class ListSpeaker {
         private int let(int rest, int place, boolean tail, int level) {
             int couples = pairs.car(rest);
             int count = pairs.lengthOf(couples);
-            if (count < 0 || !areCouples(couples, count) || !nameVariables(couples, count)) {
+            if (count < 0 || !areCouples(couples, count) || !areVariables(couples, count, true)) {
                 return SYNTAX;
             }
             for (int i = 0; i < count; i++) {
@@ -908,21 +915,6 @@ public final class ListSpeaker {
             return true;
         }
 
-        private boolean nameVariables(int couples, int count) {
-            for (int i = 0; i < count; i++) {
-                int name = pairs.car(pairs.item(couples, i));
-                if (!mayBeVariable(name)) {
-                    return false;
-                }
-                for (int k = 0; k < i; k++) {
-                    if (pairs.car(pairs.item(couples, k)) == name) {
-                        return false;
-                    }
-                }
-            }
-            return true;
-        }
-
         private int clauses(int list, int count, int place, boolean tail, int level) {
             int toEnd = NONE;
             int rest = list;
@@ -946,32 +938,10 @@ public final class ListSpeaker {
             return FINE;
         }
 
-        private int and(int list, int count, int place, boolean tail, int level) {
+        /** and, or: a value that settles it is kept, and a jump leads from it to the end. */
+        private int inTurn(int head, int list, int count, int place, boolean tail, int level) {
             if (count == 0) {
-                code.put(DO_PUSH, T);
-                return FINE;
-            }
-            int toNil = NONE;
-            int rest = list;
-            for (int i = 0; i < count - 1; i++) {
-                int error = form(pairs.car(rest), place, false, level);
-                if (error != FINE) {
-                    return error;
-                }
-                toNil = code.put(DO_JUMP_IF_NIL, toNil);
-                rest = pairs.cdr(rest);
-            }
-            int error = form(pairs.car(rest), place, tail, level);
-            int toEnd = code.put(DO_JUMP, NONE);
-            code.aimHere(toNil);
-            code.put(DO_PUSH, NIL);
-            code.aimHere(toEnd);
-            return error;
-        }
-
-        private int or(int list, int count, int place, boolean tail, int level) {
-            if (count == 0) {
-                code.put(DO_PUSH, NIL);
+                code.put(DO_PUSH, head == AND ? T : NIL);
                 return FINE;
             }
             int toEnd = NONE;
@@ -981,7 +951,7 @@ public final class ListSpeaker {
                 if (error != FINE) {
                     return error;
                 }
-                toEnd = code.put(DO_JUMP_OR_DROP, toEnd);
+                toEnd = code.put(head == AND ? DO_KEEP_NIL : DO_KEEP_OTHERS, toEnd);
                 rest = pairs.cdr(rest);
             }
             int error = form(pairs.car(rest), place, tail, level);
@@ -1117,13 +1087,15 @@ public final class ListSpeaker {
                 case DO_LOAD: return push(variable(operand));
                 case DO_JUMP: return jump(operand);
                 case DO_JUMP_IF_NIL: return jumpIfNil(operand);
-                case DO_JUMP_OR_DROP: return jumpOrDrop(operand);
+                case DO_KEEP_NIL: return keepOrDrop(below(0) == NIL, operand);
+                case DO_KEEP_OTHERS: return keepOrDrop(below(0) != NIL, operand);
                 case DO_SLIDE: return replace(operand + 1, below(0));
                 case DO_CALL: return enter(operand, number);
                 case DO_TAIL_CALL: return enterInstead(operand, number);
                 case DO_RETURN: return leave();
                 case CONS: return makePair();
                 case EQUAL: return compare();
+                case PLUS: return add();
                 default: return primitive(operation);
             }
         }
@@ -1142,7 +1114,9 @@ public final class ListSpeaker {
             }
             stack[height] = datum;
             height++;
-            mostTaken = Math.max(mostTaken, height);
+            if (height > mostTaken) {
+                mostTaken = height;
+            }
             return FINE;
         }
 
@@ -1172,8 +1146,8 @@ public final class ListSpeaker {
             return isNil ? jump(aim) : FINE;
         }
 
-        private int jumpOrDrop(int aim) {
-            if (below(0) != NIL) {
+        private int keepOrDrop(boolean keeps, int aim) {
+            if (keeps) {
                 return jump(aim);
             }
             drop();
@@ -1201,7 +1175,6 @@ public final class ListSpeaker {
                 case CONSP: return replace(1, truth(isPair(last)));
                 case NATP: return replace(1, truth(isNumber(last)));
                 case SYMBOLP: return replace(1, truth(isSymbol(last)));
-                case PLUS: return add();
                 case MINUS: return replace(2, Math.max(0, asNumber(below(1)) - asNumber(last)));
                 case LESS: return replace(2, truth(asNumber(below(1)) < asNumber(last)));
                 default: return ERROR;

@@ -25,7 +25,7 @@ public final class ErrorsTest {
             "(quote)", "(quote 1 2)", "(quote . 1)", "(if)", "(if 1 2)", "(if 1 2 3 4)",
             "(let)", "(let ())", "(let () 1 2)", "(let a 1)", "(let 5 1)", "(let (a) 1)", "(let ((a)) 1)",
             "(let ((a 1 2)) 1)", "(let ((a . 1)) 1)", "(let ((a 1) . b) 1)", "(let ((1 1)) 1)", "(let (((a) 1)) 1)",
-            "(let ((a 1) (a 2)) a)", "(let ((nil 1)) 1)", "(let ((t 1)) 1)", "(let ((quote 1)) 1)",
+            "(let ((a 1) (a 2)) a)", "(let ((a 1) (b 2) (b 3)) a)", "(let ((nil 1)) 1)", "(let ((t 1)) 1)", "(let ((quote 1)) 1)",
             "(let ((defun 1)) 1)", "(let ('1) 1)", "(cond 1)", "(cond ())", "(cond (1))", "(cond (1 2 3))",
             "(cond (1 2) . 3)", "(cond (1 . 2))", "(and . 1)", "(or 1 . 2)", "(list 1 . 2)",
             "(car (defun f () 1))", "(if nil (defun f () 1) 2)", "(f (g (1)))", "(and nil (1))",
@@ -40,7 +40,7 @@ public final class ErrorsTest {
             "(defun)", "(defun f)", "(defun f ())", "(defun f () 1 2)", "(defun f () 1 . 2)", "(defun . f)",
             "(defun 1 () 1)", "(defun (f) () 1)", "(defun nil () 1)", "(defun t () 1)", "(defun error () 1)",
             "(defun defun () 1)", "(defun < () 1)", "(defun list () 1)", "(defun f 1 1)", "(defun f x 1)",
-            "(defun f (x . y) 1)", "(defun f (1) 1)", "(defun f ((x)) 1)", "(defun f (x y x) 1)", "(defun f (nil) 1)",
+            "(defun f (x . y) 1)", "(defun f (1) 1)", "(defun f ((x)) 1)", "(defun f (x y x) 1)", "(defun f (x y y) 1)", "(defun f (nil) 1)",
             "(defun f (t) 1)", "(defun f (quote) 1)", "(defun f (defun) 1)", "(defun f 'x 1)",
             "(defun f (a b c d e g) 1)", "(defun f () (defun g () 1))", "(defun f () (if 1 2))", "(defun f () (1))",
         };

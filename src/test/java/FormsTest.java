@@ -74,6 +74,8 @@ public final class FormsTest {
             "f\ng\nf\ng\n");
         check.says("(defun f (n) (if (< n 2) n (+ (f (- n 1)) (f (- n 2))))) (f 10)", "f\n55\n");
         check.says("(defun ap (x y) (if (consp x) (cons (car x) (ap (cdr x) y)) y)) (ap '(1 2) '(3))", "ap\n(1 2 3)\n");
+        check.says("(defun f (a b c) (g)) (defun g () (cons 1 (h 5))) (defun h (x) x) (list 0 (f 1 2 3) 9)",
+            "f\ng\nh\n(0 (1 . 5) 9)\n");
         check.says("(defun f (f) (if f (f nil) 'end)) (f 1)", "f\nend\n");
         check.says("(defun f (x) (g 1 x)) (defun g (x y) (h)) (defun h () 3) (list 0 (f 2) 4)", "f\ng\nh\n(0 3 4)\n");
         check.says("(defun f (x) (let ((y (+ x 1))) (cond ((< 9 y) (g y 'a)) (t (f y))))) (defun g (a b) (and a (or nil "

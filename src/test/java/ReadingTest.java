@@ -63,6 +63,7 @@ public final class ReadingTest {
         check.says("'(1 . 2) '(1 2 . 3)", "(1 . 2)\n(1 2 . 3)\n");
         check.says("'(1 . (2 . (3 . nil)))", "(1 2 3)\n");
         check.says("'(1 . ())", "(1)\n");
+        check.says("'( 1 . 2 ;x\n ) '( 1 2 )", "(1 . 2)\n(1 2)\n");
         check.says("'(1 .'x)", "(1 quote x)\n");
         check.says("'(a;x\n.;y\nb)", "(a . b)\n");
         check.says("''a '('a b) ''()", "(quote a)\n((quote a) b)\n(quote nil)\n");

@@ -34,7 +34,7 @@ public final class ModelTest {
 
     public static void main(String[] args) throws InterruptedException {
         int desks = args.length > 0 ? Integer.parseInt(args[0]) : 3000;
-        Thread thread = new Thread(null, () -> compareAll(desks), "deep", 512L << 20);
+        Thread thread = new Thread(null, () -> compareAll(desks), "deep", 64L << 20);
         thread.start();
         thread.join();
         check.end();

@@ -1,11 +1,17 @@
-/** Counts wrong answers and prints each of them. */
+/** Counts wrong answers and prints each of them, with the sentence of the document that it is about. */
 final class Check {
     private int wrong = 0;
+    private String sentence = "";
+
+    /** The sentence of ../shared/DOC.md that all checks from here on are about. */
+    void sentence(String words) {
+        sentence = "\"" + words + "\": ";
+    }
 
     void due(String what, Object got, Object want) {
         if (!String.valueOf(got).equals(String.valueOf(want))) {
             wrong++;
-            System.out.println(what + " answered " + show(got) + ", due is " + show(want));
+            System.out.println(show(sentence + what) + " answered " + show(got) + ", due is " + show(want));
         }
     }
 
@@ -20,10 +26,14 @@ final class Check {
 
     /** want: the output, where the error of the run follows from a last line that begins with !. */
     void says(ListSpeaker desk, String text, int fuel, String want) {
-        typeAll(desk, text);
-        int error = desk.run(fuel);
-        due(show(text), printed(desk), want);
-        due(show(text) + ": the run", error, errorIn(want));
+        int error = run(desk, text, fuel);
+        due(text, printed(desk), want);
+        due(text + ": the run", error, errorIn(want));
+    }
+
+    /** For texts whose output does not matter. */
+    void ends(ListSpeaker desk, String text, int error) {
+        due(text + ": the run", run(desk, text, 20000), error);
     }
 
     void counts(String when, ListSpeaker desk, int what, int want) {
@@ -45,12 +55,27 @@ final class Check {
         }
     }
 
+    static int run(ListSpeaker desk, String text, int fuel) {
+        typeAll(desk, text);
+        return desk.run(fuel);
+    }
+
     static String printed(ListSpeaker desk) {
         StringBuilder all = new StringBuilder();
         for (int k = 0; k < desk.count(0); k++) {
             all.append(desk.output(k));
         }
         return all.toString();
+    }
+
+    /** The name of the class that the call throws. */
+    static String thrownBy(Runnable call) {
+        try {
+            call.run();
+            return "nothing";
+        } catch (RuntimeException e) {
+            return e.getClass().getSimpleName();
+        }
     }
 
     private static int errorIn(String output) {

@@ -471,7 +471,6 @@ public final class ListSpeaker {
         int forget() {
             int had = length;
             length = 0;
-            at = 0;
             return had;
         }
 

@@ -130,10 +130,14 @@ public final class CallEdgesTest {
         deep("(or (f) 1)");
         deep("(or nil (f) 2)");
         deep("(car (if 1 (f) 2))");
+        deep("(car (if nil 1 (f)))");
         deep("(car (let () (f)))");
         deep("(car (cond (1 (f))))");
+        deep("(car (cond (nil 1) (1 (f))))");
         deep("(car (and (f)))");
+        deep("(car (and 1 (f)))");
         deep("(car (or (f)))");
+        deep("(car (or nil (f)))");
         check.says("(defun f (x) (f (f x))) (f 1)", "f\n!9\n");
         check.says("(defun f () (g)) (defun g () (car (f))) (f)", "f\ng\n!9\n");
     }
@@ -148,6 +152,9 @@ public final class CallEdgesTest {
             "f\n1\n2\n4\n5\n6\n");
         placesAre("(defun f (x) x) (let ((a 1) (b 2)) (f a))", 5);
         placesAre("(defun f (x) x) (if 1 (f 1) 2)", 3);
+        placesAre("(defun f (x) x) (if nil 1 (f 2))", 3);
+        placesAre("(defun f (x) x) (cond (nil 1) (1 (f 2)))", 3);
+        placesAre("(defun f (x) x) (and 1 (or nil (f 2)))", 3);
     }
 
     private static void tailsMayHaveMoreOrFewerArguments() {
@@ -174,13 +181,16 @@ public final class CallEdgesTest {
         check.sentence("(DEEP: one more is needed)");
         String tail = "(defun f () (h 1)) (defun h (x) x) ";
         String noTail = "(defun f () (car (h 1))) (defun h (x) x) ";
-        check.says(tail + above(97), "f\nh\n!3\n");
-        check.says(tail + above(98), "f\nh\n!9\n");
-        check.says(noTail + above(96), "f\nh\n!3\n");
-        check.says(noTail + above(97), "f\nh\n!9\n");
+        String toFewer = "(defun f (a b) (h 1)) (defun h (x) x) ";
+        check.says(tail + above(97, "(f)"), "f\nh\n!3\n");
+        check.says(tail + above(98, "(f)"), "f\nh\n!9\n");
+        check.says(noTail + above(96, "(f)"), "f\nh\n!3\n");
+        check.says(noTail + above(97, "(f)"), "f\nh\n!9\n");
+        check.says(toFewer + above(96, "(f 1 2)"), "f\nh\n!3\n");
+        check.says(toFewer + above(97, "(f 1 2)"), "f\nh\n!9\n");
     }
 
-    private static String above(int values) {
-        return "(g" + " 1".repeat(values) + " (f))";
+    private static String above(int values, String last) {
+        return "(g" + " 1".repeat(values) + " " + last + ")";
     }
 }

@@ -49,6 +49,8 @@ public final class FormEdgesTest {
         check.says("(defun f (x) f)", "!2\n");
         check.says("(defun f (x) x) (f 1) x", "f\n1\n!2\n");
         check.says("(defun f () 1) f", "f\n!2\n");
+        check.says("(let ((x 1)) x) (defun f () x)", "1\n!2\n");
+        check.says("(defun f (x) x) (let ((y 1)) x)", "f\n!2\n");
         check.says("(let ((x 1)) (let ((y 2)) (list x y)))", "(1 2)\n");
         check.says("(let ((x 1)) (list x (let ((x 2)) x) x))", "(1 2 1)\n");
     }
@@ -87,6 +89,7 @@ public final class FormEdgesTest {
     private static void lets() {
         check.sentence("(let ((V A) ..) B): all A, in order; the variables V, all different, have these values then; B");
         check.says("(let ((a 1)) (let ((a 2) (b a)) (list a b)))", "(2 1)\n");
+        check.says("(let ((a 1) (b (let ((c 2)) c)) (d (let ((e 3) (g 4)) (list g e)))) (list a b d))", "(1 2 (4 3))\n");
         check.says("(let ((a (error 1)) (b (+ 268435455 1))) a)", "!8\n");
         check.says("(let ((a (+ 268435455 1)) (b (error 1))) a)", "!7\n");
         check.says("(let ((a 1) (a 2)) a)", "!1\n");
@@ -187,6 +190,9 @@ public final class FormEdgesTest {
         check.says("(equal 0 0) (equal 0 1) (equal 268435455 268435455) (equal 268435455 268435454)", "t\nnil\nt\nnil\n");
         check.says("(equal 'a 'a) (equal 'a 'b) (equal nil ()) (equal nil t) (equal 0 nil)", "t\nnil\nt\nnil\nnil\n");
         check.says("(equal '(1 (2 . a)) (list 1 (cons 2 'a))) (equal '(1 . 2) '(1 2))", "t\nnil\n");
+        check.says("(equal '((1 . 2) 3 4) '((1 . 5) 6 7)) (equal 1 1) (equal '(1) '(1)) (equal '((1) 2) '((1) 2))", "nil\nt\nt\nt\n");
+        check.says("(equal '((1)) '((2))) (equal '(1) '(1)) (equal '((1)) '((1)))", "nil\nt\nt\n");
+        check.says("(list 7 (equal 1 1) 8 (equal '(1) '(2)) 9 (equal '(1) '(1)))", "(7 t 8 nil 9 t)\n");
         check.says("(equal '(1 2) '(1 3)) (equal '(1) 1) (equal nil '(nil)) (equal '(1 2) '(1 2 3))", "nil\nnil\nnil\nnil\n");
     }
 

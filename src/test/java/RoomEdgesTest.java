@@ -87,6 +87,9 @@ public final class RoomEdgesTest {
             + "(f (cons 8 9))", "f\ng\n(5 1 8 . 9)\n");
         check.says(new ListSpeaker(4), "(let ((x (list 1 2))) (let ((y (cons x x))) (cons y y)))", "(((1 2) 1 2) (1 2) 1 2)\n");
         check.says(new ListSpeaker(5), "(list (cons 1 2) (car (list 3)) (car (list 4 5)))", "((1 . 2) 3 4)\n");
+        // what is reached on many ways must not hide what is reached on one
+        check.says(new ListSpeaker(20), "(defun f (n x) (if (< n 1) x (f (- n 1) (cons x x)))) (defun w (n) (if (< n 1) 0 (w (- n (car "
+            + "(list 1)))))) (let ((y (list 1 2 3)) (x (f 10 1))) (let ((z (w 30))) y))", "f\nw\n(1 2 3)\n");
     }
 
     private static void theTwoOfThePairStay() {

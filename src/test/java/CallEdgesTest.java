@@ -182,15 +182,11 @@ public final class CallEdgesTest {
         String tail = "(defun f () (h 1)) (defun h (x) x) ";
         String noTail = "(defun f () (car (h 1))) (defun h (x) x) ";
         String toFewer = "(defun f (a b) (h 1)) (defun h (x) x) ";
-        check.says(tail + above(97, "(f)"), "f\nh\n!3\n");
-        check.says(tail + above(98, "(f)"), "f\nh\n!9\n");
-        check.says(noTail + above(96, "(f)"), "f\nh\n!3\n");
-        check.says(noTail + above(97, "(f)"), "f\nh\n!9\n");
-        check.says(toFewer + above(96, "(f 1 2)"), "f\nh\n!3\n");
-        check.says(toFewer + above(97, "(f 1 2)"), "f\nh\n!9\n");
-    }
-
-    private static String above(int values, String last) {
-        return "(g" + " 1".repeat(values) + " " + last + ")";
+        check.says(tail + Check.above(97, "(f)"), "f\nh\n!3\n");
+        check.says(tail + Check.above(98, "(f)"), "f\nh\n!9\n");
+        check.says(noTail + Check.above(96, "(f)"), "f\nh\n!3\n");
+        check.says(noTail + Check.above(97, "(f)"), "f\nh\n!9\n");
+        check.says(toFewer + Check.above(96, "(f 1 2)"), "f\nh\n!3\n");
+        check.says(toFewer + Check.above(97, "(f 1 2)"), "f\nh\n!9\n");
     }
 }

@@ -68,6 +68,11 @@ final class Check {
         return all.toString();
     }
 
+    /** A call of what nobody has defined: UNDEFINED comes when there were places for so many values and the last form. */
+    static String above(int values, String last) {
+        return "(g" + " 1".repeat(values) + " " + last + ")";
+    }
+
     /** The name of the class that the call throws. */
     static String thrownBy(Runnable call) {
         try {

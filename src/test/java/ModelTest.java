@@ -23,8 +23,10 @@ public final class ModelTest {
         "(equal (g 6 1) (g 6 1))", "(equal (h 9) (h 9))", "(h (g 5 2))", "(list (k 3) (h 3) (g 2 3))", "(f 1)",
         "(equal (g 190 1) (g 190 1))", "(g 195 1)", "(let ((x (h 4)) (y (h 5))) (list (k 9) x y))",
     };
+    private static final String[] WIDE = {"list", "car (list", "and", "f", "g", "h 1 (f", "let ((v 1) (w 2)) (list v w"};
     private static final String ALPHABET = "()'. \n;abfx12+-<=*?Z";
-    private static final int[] SIZES = {4, 5, 6, 8, 12, 20, 50, 200};
+    private static final int[] SIZES = {-7, 3, 4, 5, 6, 8, 12, 20, 50, 99, 199, 200, 201, 9999};
+    private static final int[] FUELS = {0, 1, 2, 3, 19999, 20000};
 
     private final Random random;
 
@@ -53,10 +55,10 @@ public final class ModelTest {
     private void compare(int seed, int[] errors) {
         int size = pick(SIZES);
         ListSpeaker desk = new ListSpeaker(size);
-        Model model = new Model(size);
+        Model model = new Model(Math.max(4, Math.min(200, size)));
         for (int run = 0; run < 12; run++) {
             String text = text();
-            int fuel = random.nextInt(4) == 0 ? random.nextInt(60) : random.nextInt(20001);
+            int fuel = fuel();
             Check.typeAll(desk, text);
             int error = desk.run(fuel);
             String when = "desk " + seed + ", size " + size + ", fuel " + fuel + ": " + text.replace("\n", "\\n");
@@ -68,6 +70,14 @@ public final class ModelTest {
             }
             check.due(when + ": counts", Arrays.toString(counts), Arrays.toString(model.counts()));
             errors[error]++;
+        }
+    }
+
+    private int fuel() {
+        switch (random.nextInt(6)) {
+            case 0: return random.nextInt(60);
+            case 1: return pick(FUELS);
+            default: return random.nextInt(20001);
         }
     }
 
@@ -83,16 +93,31 @@ public final class ModelTest {
     }
 
     private String piece() {
-        switch (random.nextInt(10)) {
+        switch (random.nextInt(12)) {
             case 0: case 1: return pick(LOOPS);
             case 2: case 3: return pick(USES);
             case 4: case 5:
                 String parameters = pick(PARAMETERS);
                 return "(defun " + pick(NAMES) + " (" + parameters + ") " + form(2 + random.nextInt(3), parameters) + ")";
             case 6: return dataOf(random.nextInt(14));
-            case 7: return "'(" + name() + " " + name() + " " + name() + ")";
+            case 7: return names(1 + random.nextInt(16));
+            case 8: return random.nextInt(3) == 0 ? wide() : "(defun " + name() + " () " + random.nextInt(3) + ")";
             default: return form(1 + random.nextInt(4), "");
         }
+    }
+
+    /** Needs about as many places as the stack has. */
+    private String wide() {
+        String head = pick(WIDE);
+        return "(" + head + " 1".repeat(94 + random.nextInt(7)) + " " + form(1, "") + (head.contains("(") ? "))" : ")");
+    }
+
+    private String names(int count) {
+        StringBuilder all = new StringBuilder("'(");
+        for (int i = 0; i < count; i++) {
+            all.append(name()).append(' ');
+        }
+        return all.append(')').toString();
     }
 
     private String name() {
@@ -110,8 +135,8 @@ public final class ModelTest {
                 brackets++;
             }
         }
-        if (random.nextInt(30) == 0) {
-            return "'(" + ("'".repeat(11) + "1").repeat(12 + random.nextInt(10)) + ")";
+        if (random.nextInt(10) == 0) {
+            return "'(" + ("'".repeat(10) + "1").repeat(17 + random.nextInt(5)) + ")";
         }
         return text + pick(ATOMS) + ")".repeat(brackets);
     }

@@ -149,16 +149,20 @@ public final class OutputTest {
         };
         for (String[] line : lines) {
             for (int before = 370; before <= 399; before++) {
-                ListSpeaker desk = new ListSpeaker(9);
-                check.says(desk, FIFTY, "f\n");
-                keeps(desk, "(f)".repeat(7) + calls(before - 350) + line[0], FIFTY_PRINTED.repeat(7) + printedBy(before - 350) + line[1], 0);
+                keepsBehind(before, line[0], line[1], 0);
             }
         }
         for (int before = 390; before <= 404; before++) {
-            ListSpeaker desk = new ListSpeaker(9);
-            check.says(desk, FIFTY, "f\n");
-            keeps(desk, "(f)".repeat(7) + calls(before - 350) + "(error 1)", FIFTY_PRINTED.repeat(7) + printedBy(before - 350) + "!8\n", 8);
+            keepsBehind(before, "(error 1)", "!8\n", 8);
         }
+    }
+
+    /** So many characters are printed before the last form. */
+    private static void keepsBehind(int before, String form, String line, int error) {
+        ListSpeaker desk = new ListSpeaker(9);
+        check.says(desk, FIFTY, "f\n");
+        int rest = before - 7 * FIFTY_PRINTED.length();
+        keeps(desk, "(f)".repeat(7) + calls(rest) + form, FIFTY_PRINTED.repeat(7) + printedBy(rest) + line, error);
     }
 
     private static void goesOnWhenFull() {

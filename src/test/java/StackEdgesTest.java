@@ -35,11 +35,11 @@ public final class StackEdgesTest {
     private static void hundredPlaces() {
         check.sentence("the STACK, which has at most 100 places (DEEP: one more is needed)");
         ListSpeaker fits = new ListSpeaker(4);
-        check.says(fits, above(99, "1"), "!3\n");
+        check.says(fits, Check.above(99, "1"), "!3\n");
         check.counts("100 places", fits, 8, 100);
         check.counts("100 places", fits, 6, 101);
         ListSpeaker deep = new ListSpeaker(4);
-        check.says(deep, above(100, "1"), "!9\n");
+        check.says(deep, Check.above(100, "1"), "!9\n");
         check.counts("101 places", deep, 8, 100);
         check.counts("101 places", deep, 6, 102);
         ListSpeaker calls = new ListSpeaker(4);
@@ -51,32 +51,27 @@ public final class StackEdgesTest {
         check.counts("behind it", calls, 8, 1);
     }
 
-    /** A call, which nobody has defined, of so many values and one more. */
-    private static String above(int values, String last) {
-        return "(g" + " 1".repeat(values) + " " + last + ")";
-    }
-
     private static void everyValueNeedsAPlace() {
         String[] values = {
             "1", "t", "nil", "()", "'a", "(and)", "(or)", "(cond)", "(list)", "(let () 1)", "(if 1 2 3)", "(and 1 2)",
             "(or nil 1)", "(cond (1 2))", "(cond (nil 2))", "(car 1)",
         };
         for (String value : values) {
-            check.says(above(99, value), "!3\n");
-            check.says(above(100, value), "!9\n");
+            check.says(Check.above(99, value), "!3\n");
+            check.says(Check.above(100, value), "!9\n");
         }
         check.says("(let ((x 1)) (g" + " x".repeat(99) + "))", "!3\n");
         check.says("(let ((x 1)) (g" + " x".repeat(100) + "))", "!9\n");
-        check.says(above(98, "(cons 1 2)"), "!3\n");
-        check.says(above(99, "(cons 1 2)"), "!9\n");
+        check.says(Check.above(98, "(cons 1 2)"), "!3\n");
+        check.says(Check.above(99, "(cons 1 2)"), "!9\n");
     }
 
     private static void theNilOfAListNeedsAPlace() {
         check.sentence("(list A ..): all A, then nil is put on the stack");
         check.says(new ListSpeaker(200), "(car (list" + " 1".repeat(99) + "))", "1\n");
         check.says(new ListSpeaker(200), "(car (list" + " 1".repeat(100) + "))", "!9\n");
-        check.says(above(98, "(car (list 1))"), "!3\n");
-        check.says(above(99, "(car (list 1))"), "!9\n");
+        check.says(Check.above(98, "(car (list 1))"), "!3\n");
+        check.says(Check.above(99, "(car (list 1))"), "!9\n");
         ListSpeaker desk = new ListSpeaker(4);
         check.says(desk, "(list" + " 1".repeat(100) + ")", "!9\n");
         check.counts("no pair was made before it", desk, 4, 0);
@@ -85,39 +80,39 @@ public final class StackEdgesTest {
     private static void theEmptyPlaceNeedsAPlace() {
         check.sentence("A place without a value is put on the stack");
         ListSpeaker fits = new ListSpeaker(4);
-        check.says(fits, "(defun f () 1) " + above(98, "(f)"), "f\n!3\n");
+        check.says(fits, "(defun f () 1) " + Check.above(98, "(f)"), "f\n!3\n");
         check.counts("an empty place and a value", fits, 8, 100);
         ListSpeaker body = new ListSpeaker(4);
-        check.says(body, "(defun f () 1) " + above(99, "(f)"), "f\n!9\n");
+        check.says(body, "(defun f () 1) " + Check.above(99, "(f)"), "f\n!9\n");
         check.counts("DEEP in the body", body, 6, 1 + 99 + 2);
         ListSpeaker place = new ListSpeaker(4);
-        check.says(place, "(defun f () 1) " + above(100, "(f)"), "f\n!9\n");
+        check.says(place, "(defun f () 1) " + Check.above(100, "(f)"), "f\n!9\n");
         check.counts("DEEP before the body", place, 6, 1 + 100 + 1);
-        check.says(above(100, "(f)"), "!3\n");
-        check.says("(defun f (x) x) " + above(100, "(f)"), "f\n!4\n");
-        check.says("(defun f (x) x) " + above(97, "(f 1)"), "f\n!3\n");
-        check.says("(defun f (x) x) " + above(98, "(f 1)"), "f\n!9\n");
+        check.says(Check.above(100, "(f)"), "!3\n");
+        check.says("(defun f (x) x) " + Check.above(100, "(f)"), "f\n!4\n");
+        check.says("(defun f (x) x) " + Check.above(97, "(f 1)"), "f\n!3\n");
+        check.says("(defun f (x) x) " + Check.above(98, "(f 1)"), "f\n!9\n");
     }
 
     private static void variablesOfALetTakePlaces() {
         check.sentence("then they are taken out from under its value.");
-        check.says(above(98, "(let ((a 1)) a)"), "!3\n");
-        check.says(above(99, "(let ((a 1)) a)"), "!9\n");
-        check.says(above(97, "(let ((a 1) (b 2)) b)"), "!3\n");
-        check.says(above(98, "(let ((a 1) (b 2)) b)"), "!9\n");
-        check.says(above(97, "(let ((a 1)) a) (let ((b 2)) b)"), "!3\n");
+        check.says(Check.above(98, "(let ((a 1)) a)"), "!3\n");
+        check.says(Check.above(99, "(let ((a 1)) a)"), "!9\n");
+        check.says(Check.above(97, "(let ((a 1) (b 2)) b)"), "!3\n");
+        check.says(Check.above(98, "(let ((a 1) (b 2)) b)"), "!9\n");
+        check.says(Check.above(97, "(let ((a 1)) a) (let ((b 2)) b)"), "!3\n");
     }
 
     private static void placesAreGivenBack() {
         check.sentence("A is evaluated and taken off");
-        check.says(above(99, "(if (if (if 1 2 3) 4 5) 6 7)"), "!3\n");
+        check.says(Check.above(99, "(if (if (if 1 2 3) 4 5) 6 7)"), "!3\n");
         check.sentence("each A being taken off");
-        check.says(above(99, "(cond (nil 1) (nil 2) (3 4))"), "!3\n");
+        check.says(Check.above(99, "(cond (nil 1) (nil 2) (3 4))"), "!3\n");
         check.sentence("otherwise on with the rest; the last one is the value");
-        check.says(above(99, "(and 1 2 3 4 5)"), "!3\n");
-        check.says(above(99, "(or nil nil nil 4)"), "!3\n");
+        check.says(Check.above(99, "(and 1 2 3 4 5)"), "!3\n");
+        check.says(Check.above(99, "(or nil nil nil 4)"), "!3\n");
         check.sentence("then its value takes the place of all this.");
-        check.says("(defun f (x) x) " + above(95, "(f (f (f 1))) (f 1) (f 1)"), "f\n!3\n");
+        check.says("(defun f (x) x) " + Check.above(95, "(f (f (f 1))) (f 1) (f 1)"), "f\n!3\n");
     }
 
     private static void everyFormTakesItsSteps() {
@@ -145,8 +140,8 @@ public final class StackEdgesTest {
 
     private static void fuelComesBeforeAllElse() {
         check.sentence("and takes a STEP before all else");
-        check.says(new ListSpeaker(4), above(100, "1"), 101, "!5\n");
-        check.says(new ListSpeaker(4), above(100, "1"), 102, "!9\n");
+        check.says(new ListSpeaker(4), Check.above(100, "1"), 101, "!5\n");
+        check.says(new ListSpeaker(4), Check.above(100, "1"), 102, "!9\n");
         check.says(new ListSpeaker(4), "(error 1)", 0, "!5\n");
         check.says(new ListSpeaker(4), "(error 1)", 1, "!5\n");
         check.says(new ListSpeaker(4), "(error 1)", 2, "!8\n");

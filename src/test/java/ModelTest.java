@@ -28,6 +28,8 @@ public final class ModelTest {
     private static final int[] SIZES = {-7, 3, 4, 5, 6, 8, 12, 20, 50, 99, 199, 200, 201, 9999};
     private static final int[] FUELS = {0, 1, 2, 3, 19999, 20000};
 
+    private static int compared;
+
     private final Random random;
 
     private ModelTest(int seed) {
@@ -39,6 +41,7 @@ public final class ModelTest {
         Thread thread = new Thread(null, () -> compareAll(desks), "deep", 64L << 20);
         thread.start();
         thread.join();
+        check.due("desks that were compared to the end", compared, desks);
         check.end();
     }
 
@@ -46,6 +49,7 @@ public final class ModelTest {
         int[] errors = new int[12];
         for (int seed = 0; seed < desks; seed++) {
             new ModelTest(seed).compare(seed, errors);
+            compared++;
         }
         for (int error = 0; error < errors.length; error++) {
             check.due("texts that end with " + error, errors[error] > 0, true);

@@ -30,7 +30,7 @@ public final class TextEdgesTest {
         check.sentence("DATA are NUMBERS 0 .. 268435455, SYMBOLS, and PAIRS of two data");
         check.says("0", "0\n");
         check.says("268435455", "268435455\n");
-        check.says("'(0 . 268435455)", "(0 . 268435455)\n");
+        check.says("'(0 . 268435455) '(268435455 . 0) '(0) ''0", "(0 . 268435455)\n(268435455 . 0)\n(0)\n(quote 0)\n");
         check.says("(list (natp 0) (natp 268435455))", "(t t)\n");
     }
 

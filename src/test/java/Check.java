@@ -61,8 +61,13 @@ final class Check {
     }
 
     static String printed(ListSpeaker desk) {
+        return printed(desk, desk.count(0));
+    }
+
+    /** The first characters of the output. */
+    static String printed(ListSpeaker desk, int length) {
         StringBuilder all = new StringBuilder();
-        for (int k = 0; k < desk.count(0); k++) {
+        for (int k = 0; k < length; k++) {
             all.append(desk.output(k));
         }
         return all.toString();

@@ -11,6 +11,7 @@ public final class FormsTest {
     }
 
     private static void lists() {
+        check.says("(defun two (x) (list x x)) (two 'a)", "two\n(a a)\n");
         check.says("(defun app (x y) (if (consp x) (cons (car x) (app (cdr x) y)) y)) (app '(1 2) '(3))", "app\n(1 2 3)\n");
         check.says("(defun rev (x y) (if (consp x) (rev (cdr x) (cons (car x) y)) y)) (rev '(1 a (b . 2)) nil)",
             "rev\n((b . 2) a 1)\n");

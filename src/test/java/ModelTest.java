@@ -28,6 +28,11 @@ public final class ModelTest {
     private static final int[] SIZES = {-7, 3, 4, 5, 6, 8, 12, 20, 50, 99, 199, 200, 201, 9999};
     private static final int[] FUELS = {0, 1, 2, 3, 19999, 20000};
 
+    private static final int KINDS_OF_COUNT = 9;
+
+    /** What later calls answer is free. */
+    private static final int MOST_CALLS = 512;
+
     private static int compared;
 
     private final Random random;
@@ -37,7 +42,7 @@ public final class ModelTest {
     }
 
     public static void main(String[] args) throws InterruptedException {
-        int desks = args.length > 0 ? Integer.parseInt(args[0]) : 3000;
+        int desks = args.length > 0 ? Integer.parseInt(args[0]) : 10000;
         Thread thread = new Thread(null, () -> compareAll(desks), "deep", 64L << 20);
         thread.start();
         thread.join();
@@ -60,19 +65,27 @@ public final class ModelTest {
         int size = pick(SIZES);
         ListSpeaker desk = new ListSpeaker(size);
         Model model = new Model(Math.max(4, Math.min(200, size)));
+        int callsLeft = MOST_CALLS;
         for (int run = 0; run < 12; run++) {
             String text = text();
+            callsLeft -= text.length() + 1 + KINDS_OF_COUNT;
+            if (callsLeft < 0) {
+                return;
+            }
             int fuel = fuel();
             Check.typeAll(desk, text);
             int error = desk.run(fuel);
             String when = "desk " + seed + ", size " + size + ", fuel " + fuel + ": " + text.replace("\n", "\\n");
             check.due(when, error, model.carryOut(text, fuel));
-            check.due(when + ": output", Check.printed(desk), model.printed());
-            int[] counts = new int[9];
-            for (int what = 0; what < 9; what++) {
+            int[] counts = new int[KINDS_OF_COUNT];
+            for (int what = 0; what < KINDS_OF_COUNT; what++) {
                 counts[what] = desk.count(what);
             }
             check.due(when + ": counts", Arrays.toString(counts), Arrays.toString(model.counts()));
+            String output = model.printed();
+            int shown = Math.min(callsLeft, Math.min(counts[0], output.length()));
+            check.due(when + ": output", Check.printed(desk, shown), output.substring(0, shown));
+            callsLeft -= shown;
             errors[error]++;
         }
     }
@@ -86,7 +99,7 @@ public final class ModelTest {
     }
 
     private String text() {
-        StringBuilder all = new StringBuilder();
+        StringBuilder all = new StringBuilder(random.nextInt(8) == 0 ? crowd() : "");
         for (int n = 1 + random.nextInt(5); n > 0; n--) {
             all.append(piece()).append(random.nextInt(9) == 0 ? ";x\n" : " ");
         }
@@ -107,6 +120,20 @@ public final class ModelTest {
             case 7: return names(1 + random.nextInt(16));
             case 8: return random.nextInt(3) == 0 ? wide() : "(defun " + name() + " () " + random.nextInt(3) + ")";
             default: return form(1 + random.nextInt(4), "");
+        }
+    }
+
+    /** About as many functions, symbols or pairs of the store as there may be, within the calls of one desk. */
+    private String crowd() {
+        switch (random.nextInt(3)) {
+            case 0:
+                StringBuilder all = new StringBuilder();
+                for (char c = 'a'; c < 'm' + random.nextInt(7); c++) {
+                    all.append("(defun ").append(c).append("()1)");
+                }
+                return all.toString();
+            case 1: return names(30 + random.nextInt(40));
+            default: return "(defun " + name() + "()'(" + ("'".repeat(9) + "1").repeat(5 + random.nextInt(18)) + "))";
         }
     }
 
